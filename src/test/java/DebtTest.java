@@ -8,6 +8,7 @@ public final class DebtTest {
         paidBySale();
         oldestFirst();
         onward();
+        paidByOneThatIsUndone();
         roundAndRound();
         claimsPayLatestFirst();
         wrongOnes();
@@ -132,6 +133,27 @@ public final class DebtTest {
         C.due("on", x.purse(2, 0), 30);
         C.due("left", x.debt(0, 3), 70);
         C.due("left", x.debt(1, 3), 70);
+    }
+
+    /** A buyer who owes is given the price back, and pays with it at once. */
+    private static void paidByOneThatIsUndone() {
+        HorseFair x = new HorseFair();
+        x.person(0);
+        x.person(50);
+        x.person(100);
+        x.horse(1);
+        x.horse(0);
+        x.find(0, 0, 0);
+        x.find(1, 0, 0);
+        x.sell(0, 2, 100, 0, 0);
+        x.sell(1, 1, 150, 0, 0);
+        C.due("back", x.back(0), 0);
+        C.dueAll("debt", w -> x.debt(0, w), 1, 2, 100, 100);
+        C.due("back", x.back(1), 1);
+        C.due("left", x.debt(0, 3), 0);
+        C.due("seller", x.purse(0, 0), 0);
+        C.due("buyer", x.purse(1, 0), 50);
+        C.due("creditor", x.purse(2, 0), 100);
     }
 
     /** Two who owe one another: a penny goes to and fro till a debt is paid. */

@@ -72,6 +72,15 @@ public final class LawTest {
         fault("toll 5days 1 1;", 5, 1);
         fault("tolls 5;", 0, 1);
         fault("tol 5;", 0, 1);
+        fault("tollz 5;", 0, 1);
+        fault("tolla 5;", 0, 1);
+        fault("toll 5z;", 5, 1);
+        fault("goll 5;", 0, 1);
+        fault("says 0 5;", 0, 1);
+        fault("toll{5;", 4, 1);
+        fault("toll`5;", 4, 1);
+        fault("toll 5:", 6, 1);
+        fault("toll 5/", 6, 1);
         fault("Toll 5;", 0, 1);
         fault("toLl 5;", 0, 1);
         fault("tollX", 4, 1);
@@ -116,6 +125,7 @@ public final class LawTest {
     private static void longTexts() {
         good(padded("toll 9;", 300, ""), 1, 0, 9);
         good(padded("", 293, "toll 9;"), 1, 0, 9);
+        fault(";".repeat(300), 0, 1);
         fault(padded("toll 9;", 301, ""), 300, 1);
         fault(padded("toll 9", 300, ""), 300, 1);
         good(padded("toll 9", 299, ";"), 1, 0, 9);

@@ -79,6 +79,7 @@ public final class PeopleTest {
         C.dueAll("hand(38, 0)", w -> x.hand(38, 0, w), 0, 1, 0);
         C.dueAll("purse(0)", w -> x.purse(0, w), 0, 0, 0, 26, 26);
         C.dueAll("purse(1)", w -> x.purse(1, w), 0, 0, 0, 14, 14);
+        C.due("a day with 40 horses", x.next(), 2);
     }
 
     private static void wrongOnes() {
