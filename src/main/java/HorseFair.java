@@ -602,6 +602,8 @@ public final class HorseFair {
         final int[] atFirst = new int[MOST_SALES];
         final int[] left = new int[MOST_SALES];
         int debts = 0;
+        // All debts ahead of it are paid: a penny may go round millions of times, so they are not looked at again.
+        private int oldestOpen = 0;
 
         boolean hasPerson(int p) {
             return p >= 0 && p < people;
@@ -644,7 +646,10 @@ public final class HorseFair {
         }
 
         private boolean payOldest() {
-            for (int k = 0; k < debts; k++) {
+            while (oldestOpen < debts && left[oldestOpen] == 0) {
+                oldestOpen++;
+            }
+            for (int k = oldestOpen; k < debts; k++) {
                 int paid = Math.min(left[k], pence[debtor[k]]);
                 if (paid > 0) {
                     left[k] -= paid;

@@ -12,6 +12,7 @@ public final class DebtTest {
         roundAndRound();
         claimsPayLatestFirst();
         wrongOnes();
+        eightyDebts();
         longestRound();
         C.close();
     }
@@ -227,34 +228,64 @@ public final class DebtTest {
         C.noSuch("debt(1, 0)", () -> x.debt(1, 0));
     }
 
-    /** As much debt both ways as there can be, and one penny: it must go round to the end. */
+    /** Two who owe one another nearly all that 80 sales can leave, and one penny: it goes round to the end. */
     private static void longestRound() {
         HorseFair x = new HorseFair();
-        x.person(1000000);
-        x.person(1000000);
+        x.person(900000);
+        x.person(900000);
         x.person(0);
         Checks.law(x, 0, "toll 999;");
-        for (int h = 0; h < 40; h++) {
+        for (int h = 0; h < 39; h++) {
             x.horse(h % 2);
             x.find(h, 0, 0);
         }
-        for (int h = 0; h < 40; h++) {
-            if (x.purse(1 - h % 2, 0) < 100000) {
-                x.coin(1 - h % 2, 1000000);
+        for (int k = 0; k < 78; k++) {
+            int buyer = 1 - x.about(k % 39, 0);
+            if (x.purse(buyer, 0) < 100000) {
+                x.coin(buyer, 1000000);
             }
-            C.due("sell", x.sell(h, 1 - h % 2, 100000, 0, 0), h);
+            C.due("sell", x.sell(k % 39, buyer, 100000, 0, 0), k);
         }
-        C.due("the rest goes", x.horse(2), -1);
-        x.steal(0, 2);
-        x.sell(0, 0, Math.min(100000, x.purse(0, 0)), 0, 0);
-        x.steal(0, 2);
-        x.sell(0, 1, Math.min(100000, x.purse(1, 0)), 0, 0);
-        for (int h = 2; h < 40; h++) {
-            C.due("back", x.back(h), h);
+        x.horse(2);
+        C.due("the rest goes", x.sell(39, 0, x.purse(0, 0), 0, 0), 78);
+        x.steal(39, 2);
+        C.due("the rest goes", x.sell(39, 1, x.purse(1, 0), 0, 0), 79);
+        for (int h = 0; h < 39; h++) {
+            C.due("trace", x.trace(h), 2);
         }
-        long owed = x.purse(0, 1) + x.purse(1, 1);
-        C.due("much is owed", owed > 2000000, true);
-        x.coin(0, 1);
-        C.due("one owes no more", x.purse(0, 1) == 0 || x.purse(1, 1) == 0, true);
+        C.dueAll("purse(0)", w -> x.purse(0, w), 0, 3900000, 3900000, 20, 21);
+        C.dueAll("purse(1)", w -> x.purse(1, w), 0, 3900000, 3900000, 20, 19);
+        C.due("coin", x.coin(0, 1), 1);
+        C.dueAll("purse(0)", w -> x.purse(0, w), 1, 0, 0, 20, 21);
+        C.dueAll("purse(1)", w -> x.purse(1, w), 0, 0, 0, 20, 19);
+    }
+
+    private static void eightyDebts() {
+        HorseFair x = new HorseFair();
+        x.person(0);
+        x.person(40000);
+        x.person(40000);
+        Checks.law(x, 0, "toll 999;");
+        for (int h = 0; h < 40; h++) {
+            x.horse(0);
+            x.find(h, 0, 0);
+            C.due("sell", x.sell(h, 1, 1000, 0, 0), h);
+        }
+        for (int h = 0; h < 40; h++) {
+            C.due("sell", x.sell(h, 2, 1000, 0, 0), 40 + h);
+        }
+        for (int h = 0; h < 40; h++) {
+            C.due("trace", x.trace(h), 2);
+        }
+        C.due("count(5)", x.count(5), 80);
+        C.dueAll("debt 0", w -> x.debt(0, w), 1, 2, 960, 920);
+        C.dueAll("debt 79", w -> x.debt(79, w), 0, 1, 1000, 1000);
+        C.noSuch("debt(80, 0)", () -> x.debt(80, 0));
+        C.dueAll("purse(0)", w -> x.purse(0, w), 0, 39960, 0, 40, 40);
+        C.dueAll("purse(1)", w -> x.purse(1, w), 0, 39920, 39960, 0, 0);
+        C.dueAll("purse(2)", w -> x.purse(2, w), 80, 0, 39920, 0, 0);
+        C.due("coin", x.coin(0, 39961), 1);
+        C.dueAll("purse(1)", w -> x.purse(1, w), 40, 0, 0, 0, 0);
+        C.dueAll("purse(2)", w -> x.purse(2, w), 40000, 0, 0, 0, 0);
     }
 }
