@@ -592,6 +592,8 @@ public final class HorseFair {
     private static final class Money {
         // Each payment takes a penny at least off debts that come to this much at most.
         private static final int MOST_PAYMENTS = MOST_SALES * MOST_PRICE;
+        // Far more payments than most calls need, and than a round among all people takes.
+        private static final int WATCH_SPAN = 2 * MOST_PEOPLE;
 
         final int[] pence = new int[MOST_PEOPLE];
         int people = 0;
@@ -602,8 +604,10 @@ public final class HorseFair {
         final int[] atFirst = new int[MOST_SALES];
         final int[] left = new int[MOST_SALES];
         int debts = 0;
-        // All debts ahead of it are paid: a penny may go round millions of times, so they are not looked at again.
+        // All debts ahead of it are paid, and are not looked at again.
         private int oldestOpen = 0;
+        private final int[] penceSeen = new int[MOST_PEOPLE];
+        private final int[] leftSeen = new int[MOST_SALES];
 
         boolean hasPerson(int p) {
             return p >= 0 && p < people;
@@ -642,7 +646,49 @@ public final class HorseFair {
             int payments = 0;
             while (payments < MOST_PAYMENTS && payOldest()) {
                 payments++;
+                if (payments > WATCH_SPAN && isRound()) {
+                    skipRounds();
+                }
+                if (payments % WATCH_SPAN == 0) {
+                    see();
+                }
             }
+        }
+
+        private void see() {
+            for (int p = 0; p < people; p++) {
+                penceSeen[p] = pence[p];
+            }
+            for (int k = 0; k < debts; k++) {
+                leftSeen[k] = left[k];
+            }
+        }
+
+        private boolean isRound() {
+            for (int p = 0; p < people; p++) {
+                if (pence[p] != penceSeen[p]) {
+                    return false;
+                }
+            }
+            return true;
+        }
+
+        /**
+         * A penny may go round among those who owe one another millions of times. Where all have what they had when it was
+         * seen, the same payments come again as long as no debt falls short of them: those rounds are paid at once.
+         */
+        private void skipRounds() {
+            int rounds = MOST_PAYMENTS;
+            for (int k = 0; k < debts; k++) {
+                int inRound = leftSeen[k] - left[k];
+                if (inRound > 0) {
+                    rounds = Math.min(rounds, left[k] / inRound);
+                }
+            }
+            for (int k = 0; k < debts; k++) {
+                left[k] -= rounds * (leftSeen[k] - left[k]);
+            }
+            see();
         }
 
         private boolean payOldest() {

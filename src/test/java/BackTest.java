@@ -15,24 +15,9 @@ public final class BackTest {
         C.close();
     }
 
-    private static HorseFair fair(int people, int pence) {
-        HorseFair x = new HorseFair();
-        for (int p = 0; p < people; p++) {
-            x.person(pence);
-        }
-        x.horse(0);
-        return x;
-    }
-
-    private static void pass(HorseFair x, int days) {
-        for (int d = 0; d < days; d++) {
-            x.next();
-        }
-    }
-
     private static void finds() {
-        HorseFair x = fair(1, 0);
-        pass(x, 5);
+        HorseFair x = Checks.fair(1, 0);
+        Checks.pass(x, 5);
         C.due("no such horse", x.find(1, 0, 0), false);
         C.due("no such horse", x.find(-1, 0, 0), false);
         C.due("no such fault", x.find(0, 6, 0), false);
@@ -61,10 +46,10 @@ public final class BackTest {
     }
 
     private static int backAfter(int days, String law, int fault, int warrants) {
-        HorseFair x = fair(2, 100);
+        HorseFair x = Checks.fair(2, 100);
         x.sell(0, 1, 10, warrants, 1);
         Checks.law(x, 1, law);
-        pass(x, days);
+        Checks.pass(x, days);
         x.find(0, fault, 0);
         return x.back(0);
     }
@@ -75,7 +60,7 @@ public final class BackTest {
         C.due("another fault", backAfter(1, "days 2 3;", 1, 0), -1);
         C.due("without a law, today", backAfter(0, "", 1, 0), 0);
         C.due("without a law, tomorrow", backAfter(1, "", 1, 0), -1);
-        HorseFair x = fair(2, 100);
+        HorseFair x = Checks.fair(2, 100);
         C.due("back of no sale", x.back(0), -1);
         C.due("back(1)", x.back(1), -1);
         C.due("back(-1)", x.back(-1), -1);
@@ -100,20 +85,20 @@ public final class BackTest {
     }
 
     private static void faultMustBeOld() {
-        HorseFair x = fair(2, 100);
+        HorseFair x = Checks.fair(2, 100);
         Checks.law(x, 0, "days 0 9;days 1 3;");
-        pass(x, 3);
+        Checks.pass(x, 3);
         x.sell(0, 1, 10, 0, 0);
-        pass(x, 2);
+        Checks.pass(x, 2);
         x.find(0, 0, 4);
         C.due("since behind the sale", x.back(0), -1);
         x.find(0, 1, 3);
         C.due("since the day of the sale", x.back(0), 0);
         C.due("undone but once", x.back(0), -1);
-        HorseFair y = fair(2, 100);
+        HorseFair y = Checks.fair(2, 100);
         Checks.law(y, 0, "days 0 9;days 1 1;");
         y.sell(0, 1, 10, 0, 0);
-        pass(y, 2);
+        Checks.pass(y, 2);
         y.find(0, 1, 0);
         C.due("one fault is too late", y.back(0), -1);
         y.find(0, 0, 1);
@@ -121,11 +106,11 @@ public final class BackTest {
     }
 
     private static void lawOfToday() {
-        HorseFair x = fair(2, 100);
+        HorseFair x = Checks.fair(2, 100);
         Checks.law(x, 0, "days 0 9;");
         x.sell(0, 1, 10, 0, 0);
         x.find(0, 0, 0);
-        pass(x, 2);
+        Checks.pass(x, 2);
         Checks.law(x, 0, "days 0 1;");
         C.due("the law is another now", x.back(0), -1);
         Checks.law(x, 1, "days 0 9;");
@@ -135,7 +120,7 @@ public final class BackTest {
     }
 
     private static void buyerMustHold() {
-        HorseFair x = fair(3, 100);
+        HorseFair x = Checks.fair(3, 100);
         x.find(0, 0, 0);
         x.sell(0, 1, 10, 0, 0);
         x.steal(0, 2);
@@ -146,7 +131,7 @@ public final class BackTest {
     }
 
     private static void titleGoesBack() {
-        HorseFair x = fair(3, 100);
+        HorseFair x = Checks.fair(3, 100);
         x.find(0, 0, 0);
         x.sell(0, 1, 10, 0, 0);
         x.sell(0, 2, 20, 0, 0);
@@ -163,7 +148,7 @@ public final class BackTest {
     }
 
     private static HorseFair thiefGetsBack() {
-        HorseFair x = fair(3, 100);
+        HorseFair x = Checks.fair(3, 100);
         x.find(0, 0, 0);
         x.steal(0, 1);
         x.sell(0, 2, 20, 0, 0);
@@ -172,7 +157,7 @@ public final class BackTest {
     }
 
     private static HorseFair openedThenBack() {
-        HorseFair x = fair(3, 100);
+        HorseFair x = Checks.fair(3, 100);
         x.find(0, 0, 0);
         Checks.law(x, 0, "open 1; days 0 1;");
         x.steal(0, 1);
@@ -185,7 +170,7 @@ public final class BackTest {
     }
 
     private static void titleStaysWithItsOwner() {
-        HorseFair x = fair(3, 100);
+        HorseFair x = Checks.fair(3, 100);
         x.find(0, 0, 0);
         x.steal(0, 1);
         x.sell(0, 0, 20, 0, 0);
@@ -198,17 +183,17 @@ public final class BackTest {
     }
 
     private static void traces() {
-        HorseFair x = fair(5, 100);
+        HorseFair x = Checks.fair(5, 100);
         Checks.law(x, 0, "days 1 4;");
         x.find(0, 1, 0);
         x.sell(0, 1, 10, 0, 1);
         x.sell(0, 2, 20, 0, 0);
-        pass(x, 2);
+        Checks.pass(x, 2);
         x.sell(0, 3, 30, 0, 0);
         x.sell(0, 4, 40, 0, 0);
         x.horse(2);
         x.sell(1, 0, 5, 0, 0);
-        pass(x, 2);
+        Checks.pass(x, 2);
         C.due("as far as it can be", x.trace(0), 3);
         C.dueAll("about", w -> x.about(0, w), 1, 1, 0, 2, 8);
         C.due("another horse", x.about(1, 2), 4);

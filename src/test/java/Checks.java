@@ -36,6 +36,33 @@ final class Checks {
         thrown(call, IndexOutOfBoundsException.class, made);
     }
 
+    /** A call that is refused gives its answer, and nothing is another than it was. */
+    void refused(HorseFair fair, String call, int want, Call made) {
+        String before = Picture.of(fair);
+        due(call, made.answer(), want);
+        same(call + " changes nothing", Picture.of(fair), before);
+    }
+
+    void refusedNoSuch(HorseFair fair, String call, Call made) {
+        String before = Picture.of(fair);
+        noSuch(call, made);
+        same(call + " changes nothing", Picture.of(fair), before);
+    }
+
+    void refusedOutOfBounds(HorseFair fair, String call, Call made) {
+        String before = Picture.of(fair);
+        outOfBounds(call, made);
+        same(call + " changes nothing", Picture.of(fair), before);
+    }
+
+    void same(String what, String got, String want) {
+        asked++;
+        if (!got.equals(want)) {
+            wrong++;
+            System.out.println(name + ": " + what + ": there is\n" + got + "\ndue is\n" + want);
+        }
+    }
+
     private void thrown(String call, Class<?> kind, Call made) {
         asked++;
         String got;
@@ -62,6 +89,22 @@ final class Checks {
         System.out.println(name + ": " + asked + " answers, " + wrong + " wrong");
         if (wrong != 0) {
             System.exit(1);
+        }
+    }
+
+    /** A fair with so many people, each with so many pence, and a horse of the first one. */
+    static HorseFair fair(int people, int pence) {
+        HorseFair x = new HorseFair();
+        for (int p = 0; p < people; p++) {
+            x.person(pence);
+        }
+        x.horse(0);
+        return x;
+    }
+
+    static void pass(HorseFair fair, int days) {
+        for (int d = 0; d < days; d++) {
+            fair.next();
         }
     }
 

@@ -9,6 +9,7 @@ public final class FuzzTest {
     private static final int RUNS = 4000;
     private static final int CALLS = 512;
     private static final int LAW_RUNS = 60000;
+    private static final int POOR_RUNS = 600;
     private static final int[] EDGES = {
         -1, Integer.MIN_VALUE, Integer.MAX_VALUE, 6, 16, 40, 64, 80, 300, 301, 320, 321, 400, 1000, 100001, 1000001,
     };
@@ -42,7 +43,11 @@ public final class FuzzTest {
         for (long seed = first; seed < first + LAW_RUNS / 20; seed++) {
             wrong += new FuzzTest(seed).lawRun() ? 0 : 1;
         }
-        System.out.println("FuzzTest: " + RUNS + " runs of " + CALLS + " calls, " + LAW_RUNS + " laws, " + wrong + " wrong");
+        for (long seed = first; seed < first + POOR_RUNS; seed++) {
+            wrong += new FuzzTest(seed).poorRun() ? 0 : 1;
+        }
+        System.out.println("FuzzTest: " + RUNS + " runs of " + CALLS + " calls, " + LAW_RUNS + " laws, " + POOR_RUNS
+                + " runs of debts, " + wrong + " wrong");
         if (wrong != 0) {
             System.exit(1);
         }
@@ -93,6 +98,45 @@ public final class FuzzTest {
             newLaw();
         }
         return same;
+    }
+
+    /** The toll takes nearly all, so those whose sales are undone owe much, and a few pence go round among them. */
+    private boolean poorRun() {
+        layLaw("toll 999;".getBytes(StandardCharsets.ISO_8859_1));
+        compare("law(0)", () -> fair.law(0), () -> plain.law(0));
+        int many = 2 + random.nextInt(random.nextInt(3) == 0 ? 15 : 4);
+        for (int p = 0; p < many; p++) {
+            compare("person(0)", () -> fair.person(0), () -> plain.person(0));
+        }
+        for (int n = 0; n < 40; n++) {
+            int h = n;
+            int p = random.nextInt(many);
+            compare("horse(" + p + ")", () -> fair.horse(p), () -> plain.horse(p));
+            compare("find(" + h + ", 0, 0)", () -> fair.find(h, 0, 0) ? 1 : 0, () -> plain.find(h, 0, 0) ? 1 : 0);
+        }
+        int sales = random.nextInt(5) == 0 ? 80 : 2 + random.nextInt(79);
+        for (int k = 0; k < sales; k++) {
+            int h = random.nextInt(40);
+            poorSale(h, (fair.about(h, 0) + 1 + random.nextInt(many - 1)) % many);
+        }
+        for (int n = 0; n < 40; n++) {
+            int h = n;
+            compare("trace(" + h + ")", () -> fair.trace(h), () -> plain.trace(h));
+        }
+        for (int i = 0; i < 40 && same; i++) {
+            int p = random.nextInt(many);
+            int pence = 1 + random.nextInt(random.nextInt(4) == 0 ? 500 : 3);
+            compare("coin(" + p + ", " + pence + ")", () -> fair.coin(p, pence), () -> plain.coin(p, pence));
+        }
+        return same && sameState();
+    }
+
+    private void poorSale(int h, int p) {
+        int pence = 1 + random.nextInt(2000);
+        compare("coin(" + p + ", " + pence + ")", () -> fair.coin(p, pence), () -> plain.coin(p, pence));
+        int price = fair.purse(p, 0);
+        compare("sell(" + h + ", " + p + ", " + price + ", 0, 0)", () -> fair.sell(h, p, price, 0, 0),
+                () -> plain.sell(h, p, price, 0, 0));
     }
 
     private void act() {
@@ -174,15 +218,19 @@ public final class FuzzTest {
     private void newLaw() {
         boolean good = random.nextInt(2) == 0;
         byte[] text = (good ? goodText() : anyText()).getBytes(StandardCharsets.ISO_8859_1);
+        layLaw(text);
+        int l = pick(3);
+        compare("law(" + l + ")", () -> fair.law(l), () -> plain.law(l));
+        compare("wrong()", fair::wrong, plain::wrong);
+    }
+
+    private void layLaw(byte[] text) {
         int length = Math.min(text.length, 320);
         compare("end(0)", () -> fair.end(0) ? 1 : 0, () -> plain.end(0) ? 1 : 0);
         for (int i = 0; i < length; i += 20) {
             feed(text, i);
         }
         compare("end(" + length + ")", () -> fair.end(length) ? 1 : 0, () -> plain.end(length) ? 1 : 0);
-        int l = pick(3);
-        compare("law(" + l + ")", () -> fair.law(l), () -> plain.law(l));
-        compare("wrong()", fair::wrong, plain::wrong);
     }
 
     private void feed(byte[] text, int from) {

@@ -16,17 +16,8 @@ public final class TheftTest {
         C.close();
     }
 
-    private static HorseFair fair(int people, int pence) {
-        HorseFair x = new HorseFair();
-        for (int p = 0; p < people; p++) {
-            x.person(pence);
-        }
-        x.horse(0);
-        return x;
-    }
-
     private static void steals() {
-        HorseFair x = fair(3, 0);
+        HorseFair x = Checks.fair(3, 0);
         C.due("no such horse", x.steal(1, 1), false);
         C.due("no such horse", x.steal(-1, 1), false);
         C.due("no such thief", x.steal(0, 3), false);
@@ -44,7 +35,7 @@ public final class TheftTest {
     }
 
     private static void claims() {
-        HorseFair x = fair(4, 100);
+        HorseFair x = Checks.fair(4, 100);
         C.due("no such horse", x.claim(1), -1);
         C.due("no such horse", x.claim(-1), -1);
         C.due("the holder has the title", x.claim(0), -1);
@@ -71,7 +62,7 @@ public final class TheftTest {
     }
 
     private static void claimsOfThisTimeAlone() {
-        HorseFair x = fair(3, 100);
+        HorseFair x = Checks.fair(3, 100);
         x.steal(0, 1);
         x.sell(0, 2, 10, 0, 0);
         x.sell(0, 0, 20, 0, 0);
@@ -85,7 +76,7 @@ public final class TheftTest {
     }
 
     private static void ownersStealBack() {
-        HorseFair x = fair(3, 100);
+        HorseFair x = Checks.fair(3, 100);
         x.steal(0, 1);
         x.sell(0, 2, 10, 0, 0);
         C.due("the owner steals", x.steal(0, 0), true);
@@ -97,7 +88,7 @@ public final class TheftTest {
     }
 
     private static void opens() {
-        HorseFair x = fair(3, 100);
+        HorseFair x = Checks.fair(3, 100);
         Checks.law(x, 1, "open 2;");
         x.steal(0, 1);
         x.next();
@@ -108,7 +99,7 @@ public final class TheftTest {
         C.due("open", x.about(0, 1), 2);
         C.due("no hand of it", x.about(0, 4), 3);
         C.due("no claim", x.claim(0), -1);
-        HorseFair y = fair(3, 100);
+        HorseFair y = Checks.fair(3, 100);
         Checks.law(y, 1, "open 0;");
         y.steal(0, 1);
         y.sell(0, 2, 10, 0, 1);
@@ -118,7 +109,7 @@ public final class TheftTest {
     }
 
     private static void openNeedsTheHolder() {
-        HorseFair x = fair(4, 100);
+        HorseFair x = Checks.fair(4, 100);
         Checks.law(x, 0, "open 1;");
         x.steal(0, 1);
         x.next();
@@ -133,7 +124,7 @@ public final class TheftTest {
     }
 
     private static void openIsOfTheLawNow() {
-        HorseFair x = fair(3, 100);
+        HorseFair x = Checks.fair(3, 100);
         x.steal(0, 1);
         x.sell(0, 2, 10, 0, 1);
         Checks.law(x, 0, "open 1;");
@@ -146,7 +137,7 @@ public final class TheftTest {
     }
 
     private static void openEndsTheTime() {
-        HorseFair x = fair(4, 100);
+        HorseFair x = Checks.fair(4, 100);
         Checks.law(x, 0, "open 1;");
         x.steal(0, 1);
         x.sell(0, 2, 10, 0, 0);
@@ -163,7 +154,7 @@ public final class TheftTest {
 
     /** A buyer whose title has gone to another by OPEN can't give it back. */
     private static void takenFromAThirdOne() {
-        HorseFair x = fair(4, 100);
+        HorseFair x = Checks.fair(4, 100);
         Checks.law(x, 0, "open 1;days 0 9;");
         x.find(0, 0, 0);
         x.sell(0, 1, 10, 0, 1);
